@@ -1,0 +1,136 @@
+/** Promises 20 to 23: aim, words, spread, block. */
+public final class TellWhomTest {
+    private static final Check check = new Check();
+
+    public static void main(String[] args) {
+        aim();
+        words();
+        wordsByTwo();
+        spread();
+        block();
+        check.finish();
+    }
+
+    private static AimTunnel withOneUp() {
+        AimTunnel x = Check.told("plain 5 5;plain 0 77;");
+        x.dig(1);
+        return x;
+    }
+
+    private static void aim() {
+        aims("plain 0 77;", 20, 9, 20, 2);
+        aims("plain 0 77;", 20, 2, 20, 2);
+        aims("plain 0 77;", 20, 1, -4, -4);
+        aims("plain 0 77;", 0, 0, 0, 0);
+        aims("plain 0 77;", 1, 40, 1, 1);
+        aims("plain 0 77;", 11, 40, 11, 2);
+        aims("plain 0 77;", 77, 14, 77, 14);
+        aims("plain 0 77;", 77, 13, -4, -4);
+        aims("guard 0 77;", 3, 40, 0, 3);
+        aims("lover 11 13;", 13, 5, 12, 2);
+        aims("lover 0 0;plain 20 20;", 20, 5, 0, 2);
+        // A cynic goes east for an aim in the north.
+        aims("cynic 0 0;", 10, 5, 1, 1);
+        aims("plain 0 77;rock 10;", 10, 40, -4, -4);
+        aims("plain 0 77;word 0 0 7;", 10, 40, -4, -4);
+        aims("guard 0 0;rock 10;rock 26;faith 0 40;", 65, 40, 0, 40);
+        aims("guard 0 0;rock 10;rock 26;faith 0 40;", 65, 39, -4, -4);
+        AimTunnel x = withOneUp();
+        check.due("aim of one who is up", x.aim(0, 5, 9, 0), -2);
+        int[][] bad = {{0, 8, 9, 0}, {0, 5, 41, 0}, {0, 5, -1, 0}, {0, 5, 9, 2}, {0, 5, 9, -1}, {2, 5, 9, 0}, {-1, 5, 9, 0}};
+        for (int[] b : bad) {
+            check.due("aim(" + b[0] + ", " + b[1] + ", " + b[2] + ", " + b[3] + ")", x.aim(b[0], b[1], b[2], b[3]), -1);
+        }
+        x.aim(1, 20, 40, 0);
+        check.due("his aim stays", x.digger(1, 2), 77);
+    }
+
+    private static void aims(String text, int cell, int n, int aim, int feet) {
+        check.due(text + " aim(0, " + cell + ", " + n + ", 0)", Check.told(text).aim(0, cell, n, 0), aim);
+        check.due(text + " aim(0, " + cell + ", " + n + ", 1)", Check.told(text).aim(0, cell, n, 1), feet);
+    }
+
+    private static void words() {
+        needs("plain 0 77;", 70, 0);
+        needs("plain 0 77;", 0, 0);
+        needs("plain 0 77;", 77, 0);
+        needs("plain 0 77;", 7, 1);
+        needs("guard 0 0;faith 0 40;", 73, 0);
+        needs("guard 0 0;faith 0 40;", 72, -4);
+        needs("plain 0 0;faith 0 0;", 1, -4);
+        needs("plain 0 0;faith 0 1;", 1, 1);
+        needs("plain 0 0;faith 0 1;", 2, -4);
+        AimTunnel x = withOneUp();
+        check.due("words of one who is up", x.words(0, 5), -2);
+        check.due("words(0, 8)", x.words(0, 8), -1);
+        check.due("words(2, 0)", x.words(2, 0), -1);
+        check.due("words(-1, 0)", x.words(-1, 0), -1);
+        x.words(1, 7);
+        check.due("his aim stays", x.digger(1, 2), 77);
+    }
+
+    private static void wordsByTwo() {
+        needs("plain 0 0;rock 10;", 20, 2);
+        needs("plain 0 0;rock 10;rock 1;", 20, -4);
+        // Only the row of y = 1 leads on, so the second word has to come behind the first foot.
+        needs("plain 0 0;rock 10;rock 12;rock 13;rock 14;rock 15;rock 16;rock 17;", 20, 2);
+        // A word of foot 8 undoes what was told ahead of it: only behind 9 feet another one helps.
+        needs("plain 0 0;word 8 0 0;", 77, 2);
+        needs("plain 0 0;word 9 0 0;", 77, -4);
+        // The fewest feet by two words are as many as his faith.
+        needs("plain 0 0;rock 10;faith 0 4;", 20, 2);
+        needs("plain 0 0;rock 10;faith 0 3;", 20, -4);
+        // Word 8 sends him a foot back: by 9 feet he can be 7 feet from 77, not nearer.
+        needs("plain 0 0;word 8 0 0;faith 0 16;", 77, 2);
+        needs("plain 0 0;word 8 0 0;faith 0 15;", 77, -4);
+    }
+
+    private static void needs(String text, int cell, int words) {
+        check.due(text + " words(0, " + cell + ")", Check.told(text).words(0, cell), words);
+    }
+
+    private static void spread() {
+        AimTunnel x = Check.told("plain 0 0;guard 0 0;lover 0 0;");
+        check.due("spread(0, 0)", x.spread(0, 0), 1);
+        check.due("spread(0, 1)", x.spread(0, 1), 3);
+        check.due("spread(0, 2)", x.spread(0, 2), 6);
+        check.due("spread(0, 40)", x.spread(0, 40), 64);
+        check.due("spread(1, 9)", x.spread(1, 9), 1);
+        check.due("spread(2, 9)", x.spread(2, 9), 1);
+        check.due("spread(0, 41)", x.spread(0, 41), -1);
+        check.due("spread(0, -1)", x.spread(0, -1), -1);
+        check.due("spread(3, 0)", x.spread(3, 0), -1);
+        check.due("spread(-1, 0)", x.spread(-1, 0), -1);
+        check.due("his aim stays", x.digger(0, 2), 0);
+        AimTunnel up = withOneUp();
+        check.due("spread of one who is up", up.spread(0, 0), -2);
+        check.due("bad spread of one who is up", up.spread(0, 41), -1);
+    }
+
+    private static void block() {
+        blocks("plain 0 30;", 30, 10);
+        blocks("plain 0 30;", 10, 10);
+        blocks("plain 0 30;", 0, -4);
+        blocks("plain 0 30;", 5, -4);
+        blocks("plain 0 3;", 3, 1);
+        blocks("plain 0 30;guard 10 0;faith 1 0;", 30, 20);
+        blocks("plain 0 10;guard 10 0;faith 1 0;", 10, -4);
+        blocks("plain 0 30;rock 70;rock 71;rock 72;rock 73;rock 74;rock 75;rock 76;rock 77;", 30, 10);
+        blocks("guard 0 0;faith 0 40;", 73, 1);
+        blocks("guard 0 0;faith 0 40;", 72, -4);
+        // Who is followed can be kept away too.
+        blocks("lover 30 0;plain 30 10;faith 1 1;", 20, 20);
+        AimTunnel x = Check.told("plain 5 5;plain 0 3;");
+        x.dig(1);
+        check.due("where one is who is up", x.block(0, 5), -4);
+        check.due("block(1, 3)", x.block(1, 3), 2);
+        check.due("block(0, 8)", x.block(0, 8), -1);
+        check.due("block(2, 0)", x.block(2, 0), -1);
+        check.due("block(-1, 0)", x.block(-1, 0), -1);
+        check.due("no rock has come", x.rule(1), 0);
+    }
+
+    private static void blocks(String text, int cell, int rock) {
+        check.due(text + " block(0, " + cell + ")", Check.told(text).block(0, cell), rock);
+    }
+}
