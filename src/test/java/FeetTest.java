@@ -91,6 +91,14 @@ public final class FeetTest {
     private static void guards() {
         path("guard 77 0;", 0, 77, 77, 77, 76, 75);
         path("guard 5 5;", 0, 5, 6, 7, 7, 17);
+        for (int side = 0; side < 4; side++) {
+            int[] from = {37, 70, 30, 0};
+            AimTunnel end = Check.told("guard " + from[side] + " 0;");
+            end.alter(0, 3, side);
+            end.dig(1);
+            check.due("no cell to the side of " + side, end.digger(0, 1), from[side]);
+            check.due("so he turns", end.digger(0, 3), (side + 1) % 4);
+        }
         AimTunnel x = Check.told("guard 5 5;");
         check.due("a guard never comes up", x.dig(20), 0);
         AimTunnel y = Check.told("guard 70 0;");
@@ -241,6 +249,9 @@ public final class FeetTest {
         rings("guard 1 0;rock 0;faith 0 40;", 38, 8);
         rings("lover 11 13;", 6, 2);
         rings("cynic 11 13;", 9, 8);
+        // He who comes up behind 8 feet ends what is new; the guard's round is of 32.
+        rings("plain 0 70;guard 0 0;faith 0 40;faith 1 40;", 40, 8);
+        rings("plain 0 71;guard 0 0;faith 0 40;faith 1 40;", -4, -4);
         rings(SPIRAL, -4, -4);
         AimTunnel x = Check.told("guard 0 0;");
         check.due("ring(-1)", x.ring(-1), -1);

@@ -109,6 +109,7 @@ public final class MeantTest {
         looks("plain 0 77;faith 0 5;", 5, 24);
         looks("plain 0 77;faith 0 0;", -4, -4);
         looks("guard 0 77;", -4, -4);
+        looks("cynic 30 52;rock 33;faith 0 40;word 19 0 2;", 20, 32);
         looks("lover 0 77;plain 5 5;", -4, -4);
         AimTunnel x = Check.told("plain 0 77;");
         x.see(0, 2, 20);

@@ -3,6 +3,7 @@ import java.util.Random;
 /** Long runs of calls, the same on the class and on the model, with ordinary and with wild numbers. */
 public final class ModelTest {
     private static final int RUNS = 150;
+    private static final int WORDS_RUNS = 60;
     private static final int CALLS = 512;
     /** So that the model's dearest call is not asked for too often. */
     private static final int MOST_WORDS_CALLS = 4;
@@ -29,6 +30,9 @@ public final class ModelTest {
         for (int run = from; run < from + runs && check.wrong() < 50; run++) {
             new ModelTest(run).go();
         }
+        for (int run = from; run < from + WORDS_RUNS && check.wrong() < 50; run++) {
+            new ModelTest(run).askForWords();
+        }
         check.finish();
     }
 
@@ -48,6 +52,29 @@ public final class ModelTest {
             } else {
                 call(wild && random.nextInt(3) == 0);
             }
+        }
+    }
+
+    /** One digger among rocks and words, who needs two words more to many a cell. */
+    private void askForWords() {
+        StringBuilder text = new StringBuilder(new String[] {"plain ", "plain ", "cynic ", "lover "}[pick(3)]);
+        text.append(cell()).append(' ').append(cell()).append(";faith 0 ").append(random.nextBoolean() ? 40 : 20).append(";");
+        int rocks = pick(7);
+        for (int i = 0; i < rocks; i++) {
+            text.append("rock ").append(cell()).append(';');
+        }
+        int words = pick(4);
+        for (int i = 0; i < words; i++) {
+            text.append("word ").append(pick(20)).append(" 0 ").append(cell()).append(';');
+        }
+        for (int i = 0; i < text.length(); i++) {
+            x.feed(text.charAt(i));
+            m.feed(text.charAt(i));
+        }
+        due("text() of '" + text + "'", x.text(), m.text());
+        for (int i = 0; i < 6; i++) {
+            int cell = cell();
+            due("words(0, " + cell + ") of '" + text + "'", x.words(0, cell), m.words(0, cell));
         }
     }
 

@@ -55,8 +55,15 @@ public final class TellWhomTest {
         needs("plain 0 77;", 0, 0);
         needs("plain 0 77;", 77, 0);
         needs("plain 0 77;", 7, 1);
+        needs("plain 33 77;", 0, 1);
         needs("guard 0 0;faith 0 40;", 73, 0);
         needs("guard 0 0;faith 0 40;", 72, -4);
+        // By one word he is there behind 20 feet, but not ahead of that; here, behind 21.
+        needs("cynic 11 1;faith 0 40;word 15 0 7;word 1 0 63;", 25, 1);
+        aims("cynic 11 1;faith 0 40;word 15 0 7;word 1 0 63;", 25, 20, 12, 20);
+        needs("lover 14 47;faith 0 40;word 16 0 75;word 2 0 2;", 53, 2);
+        aims("lover 14 47;faith 0 40;word 16 0 75;word 2 0 2;", 53, 20, -4, -4);
+        aims("lover 14 47;faith 0 40;word 16 0 75;word 2 0 2;", 53, 21, 5, 21);
         needs("plain 0 0;faith 0 0;", 1, -4);
         needs("plain 0 0;faith 0 1;", 1, 1);
         needs("plain 0 0;faith 0 1;", 2, -4);
@@ -72,11 +79,19 @@ public final class TellWhomTest {
     private static void wordsByTwo() {
         needs("plain 0 0;rock 10;", 20, 2);
         needs("plain 0 0;rock 10;rock 1;", 20, -4);
+        needs("plain 20 77;rock 10;", 0, 2);
+        needs("plain 1 77;rock 11;", 10, 2);
         // Only the row of y = 1 leads on, so the second word has to come behind the first foot.
         needs("plain 0 0;rock 10;rock 12;rock 13;rock 14;rock 15;rock 16;rock 17;", 20, 2);
         // A word of foot 8 undoes what was told ahead of it: only behind 9 feet another one helps.
         needs("plain 0 0;word 8 0 0;", 77, 2);
         needs("plain 0 0;word 9 0 0;", 77, -4);
+        // Three feet on, three back by words, and then all 14: behind 20 feet is in time, behind 22 is not.
+        needs("plain 0 0;faith 0 40;word 3 0 0;word 4 0 0;word 5 0 0;", 77, 2);
+        needs("plain 0 0;faith 0 40;word 4 0 0;word 5 0 0;word 6 0 0;word 7 0 0;", 77, -4);
+        // Few of the first words leave him where a second one helps.
+        needs("plain 73 27;faith 0 40;word 7 0 21;word 10 0 55;word 18 0 47;", 0, 2);
+        needs("lover 30 74;rock 61;rock 71;rock 62;rock 70;faith 0 40;word 10 0 56;word 20 0 47;", 75, 2);
         // The fewest feet by two words are as many as his faith.
         needs("plain 0 0;rock 10;faith 0 4;", 20, 2);
         needs("plain 0 0;rock 10;faith 0 3;", 20, -4);
@@ -113,6 +128,7 @@ public final class TellWhomTest {
         blocks("plain 0 30;", 0, -4);
         blocks("plain 0 30;", 5, -4);
         blocks("plain 0 3;", 3, 1);
+        blocks("plain 30 0;", 0, 0);
         blocks("plain 0 30;guard 10 0;faith 1 0;", 30, 20);
         blocks("plain 0 10;guard 10 0;faith 1 0;", 10, -4);
         blocks("plain 0 30;rock 70;rock 71;rock 72;rock 73;rock 74;rock 75;rock 76;rock 77;", 30, 10);

@@ -91,6 +91,10 @@ public final class TextTest {
         refused("plane 0 0;", 2, 0);
         refused("plainx 0 0;", 2, 0);
         refused("plai 0 0;", 2, 0);
+        refused("xlain 0 0;", 2, 0);
+        refused("zord 0 0 0;", 2, 0);
+        refused("plain a", 2, 6);
+        refused("plain z", 2, 6);
         refused("plain 0 0; wor 0 0 0;", 2, 11);
         refused(";", 2, 0);
         refused(" 7;", 2, 1);
@@ -118,11 +122,13 @@ public final class TextTest {
         refused("word 20 3 8;", 3, 10);
         refused("rock 5;rock 05;", 4, 12);
         refused("faith 1 2;faith 1 3;", 4, 16);
+        refused("faith 1 2;faith 2 2;faith 1 3;", 4, 26);
         refused("plain 0 0;plain 0 0;plain 0 0;plain 0 0;guard 0 0;", 5, 40);
         refused("rock 0;rock 1;rock 2;rock 3;rock 4;rock 5;rock 6;rock 7;rock 10;", 5, 56);
         refused("word 0 0 0;word 0 0 0;word 0 0 0;word 0 0 0;word 0 0 0;word 0 0 0; word 0 0 0;", 5, 67);
         refused("faith 0 1;", 6, 10);
         refused("plain 0 0;faith 1 1; ", 6, 21);
+        refused("faith 1 1;plain 0 0;faith 0 1;", 6, 30);
         refused("plain 0 0;word 1 1 1;", 6, 21);
         refused("word 1 0 1;", 6, 11);
         refused("plain 0 0;rock 0;", 7, 17);
@@ -230,6 +236,7 @@ public final class TextTest {
         check.due("word(-1, 0)", x.word(-1, 0), -1);
         check.due("word(0, 3)", x.word(0, 3), -1);
         check.due("word(0, -1)", x.word(0, -1), -1);
+        check.due("rule(5) of two", Check.told("plain 0 0;guard 0 0;lover 0 0;faith 2 0;faith 0 0;").rule(5), 5);
         AimTunnel up = Check.told("plain 0 7;plain 5 5;faith 1 1;");
         up.dig(1);
         check.due("rule(4)", up.rule(4), 2);
