@@ -146,6 +146,9 @@ public final class MeantTest {
         check.due("drift(1, 2, 1)", x.drift(1, 2, 1), 11);
         check.due("drift(1, 3, 1)", x.drift(1, 3, 1), 1);
         check.due("drift(1, 3, 0)", x.drift(1, 3, 0), 0);
+        // The fourth is 17515: cell 51; the fifth 31051: cell 15.
+        check.due("drift(1, 4, 1)", x.drift(1, 4, 1), 11);
+        check.due("drift(1, 5, 1)", x.drift(1, 5, 1), 12);
         // Among three, 16838 is of digger 2, 5758 of digger 1, 10113 of digger 0.
         AimTunnel three = Check.told("plain 0 70;plain 50 0;plain 7 7;");
         check.due("drift(1, 1, 0) of three", three.drift(1, 1, 0), 4);

@@ -91,6 +91,10 @@ public final class SheetsTest {
         check.due("count(3) of an empty one", x.count(3), 0);
         check.due("lay(0, 0, 1) of an empty one", x.lay(0, 0, 1), -12);
         check.due("torn()", x.torn(), 0);
+        for (int k = 0; k < 4; k++) {
+            check.due("sheet(" + k + ", 2, 40)", x.sheet(k, 2, 40), 1);
+            check.due("lay(" + k + ", 39, 1)", x.lay(k, 39, 1), 1);
+        }
     }
 
     /** A lane keeps the lowest bits; a new row is of zeros. */
@@ -108,6 +112,7 @@ public final class SheetsTest {
         aimLaid(2, Integer.MIN_VALUE, -20);
         AimTunnel x = Check.told("plain 0 77;");
         x.sheet(0, 2, 2);
+        x.lay(0, 0, 9);
         x.lay(0, 1, 50);
         x.sheet(0, 2, 2);
         x.read(0, 2, 0, 1);
