@@ -250,6 +250,8 @@ public final class BoundsFeetTest extends Bounds {
     static void p19_ring_1_to_40() {
         rings("", 1, 0);
         rings("guard 0 0;faith 0 0;", 1, 0);
+        rings("guard 33 0;faith 0 0;", 1, 0);
+        rings("guard 33 0;rock 34;rock 43;rock 32;rock 23;", 4, 0);
         rings("guard 0 0;faith 0 1;", 2, 1);
         rings("guard 0 0;faith 0 38;", 32, 0);
         rings("guard 0 0;", 21, 20);

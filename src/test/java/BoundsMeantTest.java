@@ -189,6 +189,9 @@ public final class BoundsMeantTest extends Bounds {
         looks(seen("plain 0 77;", 0, 13, 76), 0, 14, 1);
         fits(seen("plain 0 77;", 0, 13, 76), 0, 2, 76);
         looks(seen("plain 0 77;", 0, 14, 77), 0, NONE, NONE);
+        // Two are left, one of them the aim 0.
+        fits(seen("plain 77 33;", 0, 13, 1), 0, 2, 0);
+        looks(seen("plain 77 33;", 0, 13, 1), 0, 14, 1);
     }
 
     @Says(promise = 30, value = "BAD;")

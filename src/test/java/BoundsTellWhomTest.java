@@ -109,6 +109,10 @@ public final class BoundsTellWhomTest extends Bounds {
         needs("guard 0 0;faith 0 40;", 72, NONE);
         needs("guard 0 0;faith 0 20;", 73, 0);
         needs("guard 0 0;faith 0 19;", 73, NONE);
+        // From now on, whatever was asked ahead of it.
+        AimTunnel asked = Check.told("plain 0 77;");
+        asked.ahead(0, 7);
+        due("words(0, 10)", asked.words(0, 10), 0);
         unchanged(Bounds::rich, "words(1, 66)", x -> x.words(1, 66));
         unchanged(Bounds::rich, "words(2, 66)", x -> x.words(2, 66));
     }
@@ -124,6 +128,9 @@ public final class BoundsTellWhomTest extends Bounds {
         due("its feet", Check.told("cynic 11 1;faith 0 40;word 15 0 7;word 1 0 63;").aim(0, 25, 40, 1), 20);
         needs("lover 14 47;faith 0 40;word 16 0 75;word 2 0 2;", 53, 2);
         due("its feet", Check.told("lover 14 47;faith 0 40;word 16 0 75;word 2 0 2;").aim(0, 53, 40, 1), 21);
+        // By the aim 0, by the aim 77 alone.
+        needs("plain 11 77;", 0, 1);
+        needs("plain 66 0;", 77, 1);
         // A word of foot 0 takes it back at once.
         needs("plain 0 0;word 0 0 0;", 1, NONE);
         needs("plain 0 0;word 1 0 0;", 1, 1);
@@ -139,6 +146,16 @@ public final class BoundsTellWhomTest extends Bounds {
         // Behind 1 foot is enough here, as it has to be: any other first foot leads away for good.
         needs("plain 0 0;rock 10;rock 2;faith 0 3;", 21, 2);
         needs("plain 0 0;rock 10;rock 2;faith 0 2;", 21, NONE);
+        // The first word can be 0 alone, or 77 alone; the second likewise.
+        needs("plain 1 77;rock 11;rock 12;rock 13;rock 14;rock 15;rock 16;rock 17;", 20, 2);
+        needs("plain 76 0;rock 60;rock 61;rock 62;rock 63;rock 64;rock 65;rock 66;", 57, 2);
+        needs("plain 20 77;rock 10;", 0, 2);
+        needs("plain 57 0;rock 67;", 77, 2);
+        // Asked again it is the same, though few of the first words leave him where a second one helps.
+        AimTunnel again = Check.told("plain 46 32;faith 0 40;rock 14;rock 27;rock 71;rock 51;word 3 0 45;word 11 0 52;word 3 0 46;");
+        due("words(0, 12)", again.words(0, 12), 2);
+        due("words(0, 12) again", again.words(0, 12), 2);
+        needs("lover 55 15;faith 0 20;rock 70;rock 24;rock 5;rock 25;word 6 0 44;word 12 0 56;word 2 0 40;", 26, 2);
         // The second word is told ahead of the foot's own words, which take it back.
         needs("plain 0 0;rock 10;word 1 0 1;word 2 0 1;word 3 0 1;word 4 0 1;word 5 0 1;word 6 0 1;", 20, NONE);
         // Behind 20 feet by two words, and behind 22, which is too late.
@@ -172,7 +189,7 @@ public final class BoundsTellWhomTest extends Bounds {
         needs("plain 0 0;rock 10;rock 1;", 20, NONE);
         needs("plain 0 0;rock 33;", 33, NONE);
         needs("plain 0 0;faith 0 0;", 1, NONE);
-        // Three would do: north, east, south, west are to be told one by one here.
+        // Three would do: to 3, to 50, to 40.
         needs("plain 0 0;rock 10;rock 12;rock 30;rock 31;rock 22;rock 41;", 40, NONE);
         refused(Bounds::rich, "words(3, 72)", NONE, x -> x.words(3, 72));
     }
@@ -240,6 +257,8 @@ public final class BoundsTellWhomTest extends Bounds {
         // Where one is there can be no rock, up or not.
         blocks("plain 0 30;guard 10 0;faith 1 0;", 30, 20);
         blocks("plain 0 30;guard 20 0;guard 10 0;guard 30 0;faith 1 0;faith 2 0;faith 3 0;", 30, NONE);
+        blocks("plain 10 0;guard 0 0;faith 1 0;", 0, NONE);
+        blocks("plain 67 77;guard 77 0;faith 1 0;", 77, NONE);
         // Where he is himself as well.
         blocks("plain 0 30;", 0, NONE);
         // Rock that stands already is not told, nor is there a bound of 8 for what would be.

@@ -1,3 +1,7 @@
+import java.util.List;
+import java.util.function.Supplier;
+import java.util.function.ToLongFunction;
+
 /** The boundary sentences of "What it is" and of "Terms", but for those of the text (BoundsTextTest). */
 public final class BoundsTermsTest extends Bounds {
     public static void main(String[] args) throws ReflectiveOperationException {
@@ -134,15 +138,52 @@ public final class BoundsTermsTest extends Bounds {
 
     @Says(promise = 0, value = "BY FEET: as it would be from now on.")
     static void by_feet_it_is_as_it_will_be() {
+        asItWillBe(Bounds::rich);
+        // Lovers who follow lovers, in a row and in a ring.
+        asItWillBe(() -> Check.told("lover 70 0;lover 7 0;lover 77 0;plain 0 66;word 5 3 60;word 9 3 7;"));
+        asItWillBe(() -> Check.told("guard 33 0;lover 70 0;lover 7 0;lover 77 0;rock 37;"));
+        asItWillBe(() -> Check.told("lover 50 0;lover 7 0;lover 77 0;lover 12 0;rock 20;rock 44;"));
+        asItWillBe(() -> Check.told("cynic 33 50;lover 70 0;plain 7 70;lover 77 0;rock 35;word 4 0 3;"));
+    }
+
+    private static void asItWillBe(Supplier<AimTunnel> made) {
         for (int n = 0; n <= 20; n++) {
-            AimTunnel asked = rich();
-            AimTunnel dug = rich();
+            AimTunnel asked = made.get();
+            AimTunnel dug = made.get();
             dug.dig(n);
             for (int d = 0; d < 4; d++) {
-                due("ahead(" + d + ", " + n + ")", asked.ahead(d, n), dug.digger(d, 1));
+                int there = dug.digger(d, 1);
+                due("ahead(" + d + ", " + n + ")", asked.ahead(d, n), there);
+                int first = asked.reaches(d, there);
+                holds("reaches(" + d + ", " + there + ") is by " + n, first >= 0 && first <= n && asked.ahead(d, first) == there);
+                due("spread(" + d + ", " + n + ") of lovers", asked.digger(d, 0) == 2 ? asked.spread(d, n) : 1, 1);
+                for (int e = 0; e < d; e++) {
+                    boolean met = there == dug.digger(e, 1) && dug.digger(d, 5) + dug.digger(e, 5) == 0;
+                    int meet = asked.meet(d, e);
+                    holds("meet(" + d + ", " + e + ") is by " + n, !met || meet >= 0 && meet <= n);
+                    holds("meet(" + d + ", " + e + ") is not at " + n, met || meet != n);
+                }
             }
             due("runs(" + n + ", 0)", asked.runs(n, 0), dug.rule(4));
             due("runs(" + n + ", 1)", asked.runs(n, 1), dug.rule(5));
+        }
+    }
+
+    @Says(promise = 0, value = "BY FEET: as it would be from now on.")
+    static void questions_have_no_bearing_on_one_another() {
+        List<ToLongFunction<AimTunnel>> questions = List.of(
+            x -> x.runs(33, 2), x -> x.ahead(1, 4), x -> x.ahead(2, 9), x -> x.reaches(1, 1), x -> x.reaches(2, 62), x -> x.meet(1, 2),
+            x -> x.ring(0), x -> x.ring(1), x -> x.aim(1, 52, 40, 0), x -> x.aim(2, 62, 40, 1), x -> x.words(1, 66), x -> x.words(1, 50),
+            x -> x.words(2, 62), x -> x.spread(1, 9), x -> x.block(1, 7), x -> x.block(2, 62), x -> x.luck(3, 1, 30, 0),
+            x -> x.mean(3, 30, 0), x -> x.aims(1, 0), x -> x.aims(1, 1), x -> x.kinds(1), x -> x.look(1, 0), x -> x.look(1, 1),
+            x -> x.drift(5, 50, 0), x -> x.drift(6, 9, 1));
+        for (int i = 0; i < questions.size(); i++) {
+            long alone = questions.get(i).applyAsLong(rich());
+            for (int j = 0; j < questions.size(); j++) {
+                AimTunnel x = rich();
+                questions.get(j).applyAsLong(x);
+                due("question " + i + " behind question " + j, questions.get(i).applyAsLong(x), alone);
+            }
         }
     }
 
@@ -344,8 +385,10 @@ public final class BoundsTermsTest extends Bounds {
     static void foot_what_a_lover_wants() {
         AimTunnel alone = Check.told("lover 33 36;");
         due("alone: his aim", alone.ahead(0, 1), 34);
-        AimTunnel last = Check.told("guard 0 0;plain 7 7;lover 33 36;faith 0 0;");
+        AimTunnel last = Check.told("guard 0 0;guard 73 0;lover 33 36;faith 0 0;faith 1 0;");
         due("behind the last one is digger 0", last.ahead(2, 1), 23);
+        AimTunnel ofTwo = Check.told("guard 0 0;lover 33 36;faith 0 0;");
+        due("behind the last of two is digger 0", ofTwo.ahead(1, 1), 23);
         AimTunnel first = Check.told("lover 33 36;plain 73 73;plain 0 0;");
         due("behind the first one is digger 1", first.ahead(0, 1), 43);
         due("he is wanted also when he is up", first.ahead(0, 4), 73);
@@ -416,20 +459,22 @@ public final class BoundsTermsTest extends Bounds {
 
     @Says(promise = 0, value = "He goes 1 on by HEADING, if there is a CELL without ROCK; else he stays and HEADING is 1 more (modulo 4).")
     static void foot_at_a_rock_or_the_end_he_stays_and_turns() {
-        int[] edge = {37, 73, 30, 3};
-        int[] beside = {36, 63, 31, 13};
         int[] rock = {34, 43, 32, 23};
         for (int h = 0; h < 4; h++) {
-            AimTunnel end = Check.told("guard " + edge[h] + " 0;");
-            end.alter(0, 3, h);
-            end.dig(1);
-            due("at the end by " + h, end.digger(0, 1), edge[h]);
-            due("turned from " + h, end.digger(0, 3), (h + 1) % 4);
-            AimTunnel near = Check.told("guard " + beside[h] + " 0;");
-            near.alter(0, 3, h);
-            near.dig(1);
-            due("one ahead of the end by " + h, near.digger(0, 1), edge[h]);
-            due("not turned from " + h, near.digger(0, 3), h);
+            for (int i = 0; i < 8; i++) {
+                int[] edge = {10 * i + 7, 70 + i, 10 * i, i};
+                int[] beside = {10 * i + 6, 60 + i, 10 * i + 1, 10 + i};
+                AimTunnel end = Check.told("guard " + edge[h] + " 0;");
+                end.alter(0, 3, h);
+                end.dig(1);
+                due("at the end by " + h, end.digger(0, 1), edge[h]);
+                due("turned from " + h, end.digger(0, 3), (h + 1) % 4);
+                AimTunnel near = Check.told("guard " + beside[h] + " 0;");
+                near.alter(0, 3, h);
+                near.dig(1);
+                due("one ahead of the end by " + h, near.digger(0, 1), edge[h]);
+                due("not turned from " + h, near.digger(0, 3), h);
+            }
             AimTunnel stopped = Check.told("guard 33 0;rock " + rock[h] + ";");
             stopped.alter(0, 3, h);
             stopped.dig(1);

@@ -106,6 +106,8 @@ public final class BoundsTextTest extends Bounds {
             refusedText(less + ";", 2, less.length());
             refusedText(less + " ", 2, less.length() + 1);
             refusedText(head + names[i] + "s" + repeated(" 0", numbers[i]) + ";", 2, head.length());
+            refusedText(head + "x" + names[i].substring(1) + repeated(" 0", numbers[i]) + ";", 2, head.length());
+            refusedText(head + names[i].substring(0, names[i].length() - 1) + "x" + repeated(" 0", numbers[i]) + ";", 2, head.length());
             refusedText(head + names[i].substring(1) + repeated(" 0", numbers[i]) + ";", 2, head.length());
             refusedText(head + names[i].substring(0, names[i].length() - 1) + repeated(" 0", numbers[i]) + ";", 2, head.length());
         }
@@ -316,6 +318,25 @@ public final class BoundsTextTest extends Bounds {
         due("keep(0)", x.keep(0), 0);
         due("cells of sheet 0", x.count(3), 6);
         due("torn()", x.torn(), 3);
+    }
+
+    @Says(promise = 0, value = "A text that is taken tells all, in place of what there was;")
+    static void text_taken_with_all_as_it_is_at_first() {
+        AimTunnel x = Check.told("guard 1 0;guard 2 0;guard 3 0;plain 4 4;");
+        for (int d = 0; d < 4; d++) {
+            x.alter(d, 3, 3);
+            x.alter(d, 4, 40 - d);
+        }
+        x.dig(1);
+        x.runs(7, 0);
+        Check.feed(x, "plain 1 0;plain 2 0;plain 3 0;plain 4 0;");
+        x.text();
+        for (int d = 0; d < 4; d++) {
+            int[] due = {0, d + 1, 0, 0, 20, 0};
+            for (int what = 0; what <= 5; what++) {
+                due("digger(" + d + ", " + what + ")", x.digger(d, what), due[what]);
+            }
+        }
     }
 
     // ---- promise 1

@@ -44,7 +44,8 @@ public final class ModelTest {
     private void go() {
         int before = check.wrong();
         boolean wild = run % 4 == 3;
-        while (calls < CALLS && check.wrong() == before) {
+        // A sheet of words takes some 20 calls; none may come behind the 512th.
+        while (calls < CALLS - 20 && check.wrong() == before) {
             if (calls == 0 || random.nextInt(60) == 0) {
                 text();
             } else if (random.nextInt(40) == 0) {
@@ -105,7 +106,7 @@ public final class ModelTest {
         if (random.nextInt(4) != 0) {
             due("end(0)", x.end(0), m.end(0));
         }
-        for (int i = 0; i < text.length() && calls < CALLS; i++) {
+        for (int i = 0; i < text.length() && calls < CALLS - 2; i++) {
             int c = text.charAt(i);
             due("feed(" + c + ")", x.feed(c), m.feed(c));
         }
