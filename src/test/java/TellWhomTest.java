@@ -98,6 +98,18 @@ public final class TellWhomTest {
         // Word 8 sends him a foot back: by 9 feet he can be 7 feet from 77, not nearer.
         needs("plain 0 0;word 8 0 0;faith 0 16;", 77, 2);
         needs("plain 0 0;word 8 0 0;faith 0 15;", 77, -4);
+        // He stands in 0 with heading north behind 1 foot, where the word of foot 1 takes back what he is told, and again
+        // behind 5 feet, where no word does: the second word helps there alone.
+        needsFromWest("lover 0 0;word 0 0 0;word 1 0 0;word 2 0 0;word 3 0 0;word 4 0 0;", 6, 2);
+        needsFromWest("lover 0 0;word 0 0 0;word 1 0 0;word 2 0 0;word 3 0 0;word 4 0 0;", 5, -4);
+        needsFromWest("lover 0 0;word 0 0 0;word 1 0 0;word 2 0 0;word 3 0 0;word 4 0 0;word 5 0 0;", 6, -4);
+    }
+
+    private static void needsFromWest(String text, int faith, int words) {
+        AimTunnel x = Check.told(text);
+        x.alter(0, 3, 3);
+        x.alter(0, 4, faith);
+        check.due(text + " with heading west, faith " + faith + " words(0, 10)", x.words(0, 10), words);
     }
 
     private static void needs(String text, int cell, int words) {
