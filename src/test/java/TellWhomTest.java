@@ -6,6 +6,8 @@ public final class TellWhomTest {
         aim();
         words();
         wordsByTwo();
+        wordsByHeading();
+        aimsAreCells();
         spread();
         block();
         check.finish();
@@ -98,18 +100,38 @@ public final class TellWhomTest {
         // Word 8 sends him a foot back: by 9 feet he can be 7 feet from 77, not nearer.
         needs("plain 0 0;word 8 0 0;faith 0 16;", 77, 2);
         needs("plain 0 0;word 8 0 0;faith 0 15;", 77, -4);
-        // He stands in 0 with heading north behind 1 foot, where the word of foot 1 takes back what he is told, and again
-        // behind 5 feet, where no word does: the second word helps there alone.
-        needsFromWest("lover 0 0;word 0 0 0;word 1 0 0;word 2 0 0;word 3 0 0;word 4 0 0;", 6, 2);
-        needsFromWest("lover 0 0;word 0 0 0;word 1 0 0;word 2 0 0;word 3 0 0;word 4 0 0;", 5, -4);
-        needsFromWest("lover 0 0;word 0 0 0;word 1 0 0;word 2 0 0;word 3 0 0;word 4 0 0;word 5 0 0;", 6, -4);
     }
 
-    private static void needsFromWest(String text, int faith, int words) {
+    /** A lover who is where he wants to be goes on by his heading, so that it matters how he came there. */
+    private static void wordsByHeading() {
+        // He stands in 0 with heading north behind 1 foot, where the word of foot 1 takes back what he is told, and again
+        // behind 5 feet, where no word does: the second word helps there alone.
+        String round = "lover 0 0;word 0 0 0;word 1 0 0;word 2 0 0;word 3 0 0;word 4 0 0;";
+        needs(round + "faith 0 6;", 3, 10, 2);
+        needs(round + "faith 0 5;", 3, 10, -4);
+        needs(round + "faith 0 6;word 5 0 0;", 3, 10, -4);
+        // By some first words he comes to 2 with heading north, by others with heading west: these alone help, as he
+        // then loses a foot at the edge and is in 3, not in 2, when the word of foot 4 comes.
+        needs("lover 11 32;faith 0 6;word 4 0 11;word 5 0 22;word 1 0 3;", 0, 23, 2);
+        needs("lover 2 20;faith 0 7;word 5 0 15;word 3 0 0;word 6 0 23;", 3, 24, 2);
+    }
+
+    /** An aim is a cell: no word makes a cynic go along the edge, for which he would have to mean what lies beyond it. */
+    private static void aimsAreCells() {
+        for (int faith = 1; faith <= 2; faith++) {
+            aims("cynic 3 0;faith 0 " + faith + ";", 4, 40, -4, -4);
+            aims("cynic 73 0;faith 0 " + faith + ";", 72, 40, -4, -4);
+            needs("cynic 3 0;faith 0 " + faith + ";", 4, -4);
+            needs("cynic 73 0;faith 0 " + faith + ";", 72, -4);
+        }
+        needs("cynic 3 0;", 4, 2);
+        needs("cynic 73 0;", 72, 2);
+    }
+
+    private static void needs(String text, int heading, int cell, int words) {
         AimTunnel x = Check.told(text);
-        x.alter(0, 3, 3);
-        x.alter(0, 4, faith);
-        check.due(text + " with heading west, faith " + faith + " words(0, 10)", x.words(0, 10), words);
+        x.alter(0, 3, heading);
+        check.due(text + " with heading " + heading + " words(0, " + cell + ")", x.words(0, cell), words);
     }
 
     private static void needs(String text, int cell, int words) {

@@ -149,6 +149,15 @@ public final class TextTest {
         refused("plain 0 0;rock 0;#", 1, 17);
         refused("rock 1 !", 1, 7);
         refused("abc !", 2, 0);
+        // What is no cell or no digger is not cell 0 or digger 0, which are told already.
+        refused("rock 0;rock 8;", 3, 12);
+        refused("rock 0;rock x;", 2, 12);
+        refused("rock 0;rock 000;", 1, 12);
+        refused("rock 0;rock", 2, 11);
+        refused("faith 0 1;faith 4 1;", 3, 16);
+        refused("faith 0 1;faith ;", 2, 16);
+        refused("faith 0 1;faith 000 1;", 1, 16);
+        refused("faith 0 1;faith", 2, 15);
     }
 
     private static void refusedTextChangesNothing() {
